@@ -742,20 +742,19 @@ public final class DelayClusters {
         /** From whom a place is reached first. */
         int earliestAt(int j) {
             int first = j;
+            int firstHour = startOf(j);
             for (int i = 0; i < plan.places(); i++) {
-                if (paths.areJoined(i, j) && isEarlierAt(j, i, first)) {
+                // from one that is not joined to it the hour is beyond that of its own start
+                int hour = startOf(i) + paths.between(i, j);
+                if (hour < firstHour || hour == firstHour && winsTie(i, first)) {
                     first = i;
+                    firstHour = hour;
                 }
             }
             return first;
         }
 
-        private boolean isEarlierAt(int j, int one, int other) {
-            int oneHour = startOf(one) + paths.between(one, j);
-            int otherHour = startOf(other) + paths.between(other, j);
-            if (oneHour != otherHour) {
-                return oneHour < otherHour;
-            }
+        private boolean winsTie(int one, int other) {
             if (fractions[one] != fractions[other]) {
                 return fractions[one] < fractions[other];
             }

@@ -316,6 +316,10 @@ public final class PromiseTests {
                 due("place(" + i + ", " + what + ")", x.place(i, what), want[i][what]);
             }
         }
+        due("link(0, 3, 9)", x.link(0, 3, 9), 5);
+        due("place(3, 9)", x.place(3, 9), 3);
+        due("place(1, 9)", x.place(1, 9), 2);
+        due("place(0, 9) without links", laid("n2;", 2).place(0, 9), 0);
         due("place(4, 0)", x.place(4, 0), BAD);
         due("place(-1, 0)", x.place(-1, 0), BAD);
         due("place(0, -1)", x.place(0, -1), BAD);
@@ -401,6 +405,13 @@ public final class PromiseTests {
         due("cluster(3, 0)", x.cluster(3, 0), BAD);
         due("cluster(-1, 0)", x.cluster(-1, 0), BAD);
         due("cluster(MAX, 0)", x.cluster(Integer.MAX_VALUE, 0), BAD);
+        DelayClusters row = laid("n4;l0,1,9;l1,2,9;l2,3,1;d0,5,1;d1,5,1;d2,5,1;d3,0,1;", 4);
+        int[][] ofRow = {{0, 1, 0, 1, 1, 1}, {1, 1, 0, 2, 2, 2}, {2, 2, 1, 1, 1, 12}};
+        for (int c = 0; c < 3; c++) {
+            for (int what = 0; what < 6; what++) {
+                due("cluster(" + c + ", " + what + ") of a row", row.cluster(c, what), ofRow[c][what]);
+            }
+        }
         DelayClusters alone = laid("n16;m1,10;", 16);
         due("cluster(15, 5)", alone.cluster(15, 5), 1 << 15);
     }
@@ -472,6 +483,7 @@ public final class PromiseTests {
         due("chance of a cut link, below", told.chance(2, 1, 60, 1), 1);
         due("chance of another, above", told.chance(0, 1, 60, 0), 0);
         due("chance of another, below", told.chance(0, 1, 60, 1), 1);
+        due("chance by one draw", told.chance(1, 2, 1, 0), 1);
         DelayClusters x = new DelayClusters();
         due("chance(0, 1, 60, 0)", x.chance(0, 1, 60, 0), 7);
         due("chance(1, 0, 60, 1)", x.chance(1, 0, 60, 1), 30);
@@ -519,6 +531,11 @@ public final class PromiseTests {
         due("count(-1)", x.count(-1), BAD);
         due("count(13)", x.count(13), BAD);
         due("count(4) of the square", laid(SQUARE, 4).count(4), 1);
+        DelayClusters alone = laid("n1;d0,0,0;", 1);
+        int[] ofOne = {1, 0, 1, 0, 0, 0, 0, 1, 0, 8, 6, 0, 10};
+        for (int what = 0; what < ofOne.length; what++) {
+            due("count(" + what + ") of one place", alone.count(what), ofOne[what]);
+        }
         // the last hour is not how wide the widest is
         DelayClusters late = laid("n2;d0,9,0;d1,2,0;", 2);
         due("count(5)", late.count(5), 0);
