@@ -458,6 +458,8 @@ public final class PromiseTests {
         due("best(60, 1, 1)", told.best(60, 1, 1), NONE);
         DelayClusters x = new DelayClusters();
         for (int w = 0; w < 6; w++) {
+            // one object has not calls enough for all w
+            x = new DelayClusters();
             int z = NONE;
             for (int other = 0; other < 60; other++) {
                 if (x.tried(other, 2) <= w && (z == NONE || x.tried(other, 1) < x.tried(z, 1))) {
