@@ -456,7 +456,7 @@ public final class DelayClusters {
         }
 
         boolean isPlace(int i) {
-            return isWithin(i, 0, places - 1);
+            return 0 <= i && i < places;
         }
 
         boolean isPair(int i, int j) {
